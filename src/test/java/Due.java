@@ -1,0 +1,42 @@
+/** Counts the calls whose answer is the one that is due, and prints the others. */
+final class Due {
+    interface Call {
+        Object answer();
+    }
+
+    private static int passed;
+    private static int failed;
+
+    private Due() {
+    }
+
+    /** The answer of a call as a text; for an exception "throws." and the name of its class. */
+    static String outcome(Call call) {
+        try {
+            return String.valueOf(call.answer());
+        } catch (RuntimeException thrown) {
+            String name = thrown.getClass().getName();
+            return "throws." + name.substring(name.lastIndexOf('.') + 1);
+        }
+    }
+
+    static void answers(Object due, String what, Call call) {
+        same(String.valueOf(due), what, outcome(call));
+    }
+
+    static void same(String due, String what, String got) {
+        if (due.equals(got)) {
+            passed++;
+            return;
+        }
+        failed++;
+        System.out.println(what + " answered " + got + ", due is " + due);
+    }
+
+    static void end() {
+        System.out.println(passed + " passed, " + failed + " failed");
+        if (failed != 0 || passed == 0) {
+            System.exit(1);
+        }
+    }
+}
