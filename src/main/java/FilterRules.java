@@ -674,7 +674,8 @@ public final class FilterRules {
 
     /**
      * Counts in tally[now][then] the packets that the one decides now and the other would decide if
-     * the object had the further values. Packets without any rule are left out.
+     * the object had the further values. Of the packets that no rule decides, now or then, not all
+     * are counted: no answer needs them.
      */
     private void tallyDeciders(int object, int furtherValues) {
         for (int i = 0; i < DECIDERS; i++) {

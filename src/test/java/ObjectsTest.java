@@ -153,6 +153,12 @@ public final class ObjectsTest {
         Snapshot.refuses(ObjectsTest::sample, UNSUPPORTED, "1 in 2", x -> x.addMember(2, 1));
         Snapshot.refuses(ObjectsTest::chain, UNSUPPORTED, "0 in 7", x -> x.addMember(7, 0));
         Snapshot.refuses(ObjectsTest::chain, UNSUPPORTED, "0 in 1", x -> x.addMember(1, 0));
+        FilterRules by = withObjects(3);
+        by.addMember(2, 0);
+        by.addMember(0, 1);
+        by.addRule(0, 'a', 2, -1, -1, 0);
+        Due.answers("throws." + UNSUPPORTED, "2 in 1, by 0", () -> by.addMember(1, 2));
+        Due.answers(1, "users(1), by 0 and 2", () -> by.users(1));
         FilterRules full = sample();
         full.addMember(3, 0);
         full.addObject();
