@@ -6,8 +6,19 @@ final class Due {
 
     private static int passed;
     private static int failed;
+    private static String place = "";
 
     private Due() {
+    }
+
+    /** Names the place in the document that the next answers belong to. */
+    static void nowIn(String newPlace) {
+        place = newPlace.isEmpty() ? "" : "[" + newPlace + "] ";
+    }
+
+    /** The number of answers that were looked at. */
+    static int answers() {
+        return passed + failed;
     }
 
     /** The answer of a call as a text; for an exception "throws." and the name of its class. */
@@ -30,7 +41,7 @@ final class Due {
             return;
         }
         failed++;
-        System.out.println(what + " answered " + got + ", due is " + due);
+        System.out.println(place + what + " answered " + got + ", due is " + due);
     }
 
     static void end() {
