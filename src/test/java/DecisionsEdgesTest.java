@@ -17,6 +17,12 @@ public final class DecisionsEdgesTest {
         decided("Promise 26", (x, rule) -> x.decidedBySamples(rule));
         decidedNotInForce("Promise 25", (x, rule) -> x.decided(rule));
         decidedNotInForce("Promise 26", (x, rule) -> x.decidedBySamples(rule));
+        decidedWithFewerRules("Promise 25",
+            "found by taking off what the rules ahead of it match, piece by piece",
+            (x, rule) -> x.decided(rule));
+        decidedWithFewerRules("Promise 26",
+            "one packet of each group of packets that are matched by the same rules in each field",
+            (x, rule) -> x.decidedBySamples(rule));
         isShadowed();
         mainShadowAnswers();
         mainShadowOfSeveral();
@@ -78,6 +84,9 @@ public final class DecisionsEdgesTest {
         decides(0, 2, "a.6. d.7. d222", call);
         decides(512, 1, "a6.. d..1", call);
         decides(512, 1, "a.7. d..1", call);
+        decides(32768 - 16 * 31, 1, "a651 d...", call);
+        decides(32768 - 31 * 16, 1, "a165 d...", call);
+        decides(32768 - 16 * 31, 1, "a516 d...", call);
         decides(30 * 30 * 30, 7, SEVEN_AHEAD, call);
         decides(0, 6, SEVEN_AHEAD, call);
         decides(30 * 32, 2, SEVEN_AHEAD, call);
@@ -107,6 +116,28 @@ public final class DecisionsEdgesTest {
         book.setLastDay(0, 4);
         Due.answers("16384 0 0", "0 in force again",
             () -> call.on(book, 0) + " " + call.on(book, 1) + " " + call.on(book, 2));
+    }
+
+    /** Asks again while rules go, and with them the groups of values. */
+    private static void decidedWithFewerRules(String promise, String how, Snapshot.CallWith call) {
+        Sentence.test(promise, how);
+        FilterRules book = Edges.objects(8);
+        int[] halves = {16, 8, 4, 2, 1};
+        for (int i = 0; i < halves.length; i++) {
+            for (int low = 0; low < 3 && 2 * low * halves[i] < 32; low++) {
+                book.addRange(i, 2 * low * halves[i], (2 * low + 1) * halves[i] - 1);
+            }
+            book.addRule(i, 'a', i, i, i, 0);
+        }
+        book.addRule(5, 'd', -1, -1, -1, 0);
+        int rest = 32768 - 16 * 16 * 16;
+        Due.answers(16 * 16 * 16, "the first of 6", () -> call.on(book, 0));
+        for (int i = 4; i > 0; i--) {
+            book.removeRule(i);
+        }
+        Due.answers(rest, "the last of 2", () -> call.on(book, 5));
+        book.removeRule(0);
+        Due.answers(32768, "the only one", () -> call.on(book, 5));
     }
 
     private static void shadowed(boolean due, int rule, String rules) {

@@ -368,6 +368,7 @@ public final class ObjectsEdgesTest {
         Snapshot.asks(ObjectsEdgesTest::chain, 0, "a chain of nothing", x -> x.values(0));
         FilterRules chain = chain();
         chain.addRange(7, 9, 9);
+        Due.answers(1, "9 by a chain of 7 members", () -> chain.values(0));
         chain.addMember(0, 7);
         Due.answers(1, "9 by 7 members and by one", () -> chain.values(0));
         chain.addRange(0, 9, 10);
@@ -395,6 +396,10 @@ public final class ObjectsEdgesTest {
             Due.answers(true, i + " in 0 to 31", () -> book.hasValue(1, value));
             Due.answers(false, i + " in nothing", () -> book.hasValue(2, value));
         }
+        FilterRules chain = chain();
+        chain.addRange(7, 9, 9);
+        Due.answers("false true false", "8, 9 and 10 by a chain of 7 members",
+            () -> chain.hasValue(0, 8) + " " + chain.hasValue(0, 9) + " " + chain.hasValue(0, 10));
         Sentence.test("Promise 8", "Throws `IndexOutOfBoundsException` if there is no such object");
         Edges.refusesNoObject((x, object) -> x.hasValue(object, 0));
         Sentence.test("Promise 8",
@@ -428,6 +433,10 @@ public final class ObjectsEdgesTest {
         three.addRule(0, 'a', 4, 5, 6, 0);
         Due.answers("0 1 1 1", "by one rule in three fields", () -> three.users(3) + " "
             + three.users(4) + " " + three.users(6) + " " + three.users(7));
+        FilterRules fields = Edges.told("a1.. a.2. a..3");
+        Due.answers("0 1 1 1 0", "by one rule in each field", () -> fields.users(0) + " "
+            + fields.users(1) + " " + fields.users(2) + " " + fields.users(3) + " "
+            + fields.users(4));
         three.addRule(0, 'a', -1, -1, -1, 0);
         Due.answers("0 1", "a rule without objects", () -> three.users(0) + " " + three.users(7));
         Sentence.test("Promise 9", "Throws `IndexOutOfBoundsException` if there is no such object");

@@ -1,4 +1,5 @@
 import java.io.IOException;
+import java.util.stream.IntStream;
 
 /** The edges of the promises 10 to 16, sentence by sentence. */
 public final class RulesEdgesTest {
@@ -237,6 +238,7 @@ public final class RulesEdgesTest {
             "Returns the number of packets whose decision changes by this.");
         Due.answers(32768, "accept all", () -> changedWithout(0, "a", 0));
         Due.answers(32768, "accept all, without objects", () -> changedWithout(0, "a", -1));
+        Due.answers(32768, "accept all ahead of deny one", () -> changedWithout(0, "ad", 0, 1));
         Due.answers(0, "deny all, as none would", () -> changedWithout(0, "d", 0));
         Due.answers(0, "accept nothing", () -> changedWithout(0, "a", 3));
         Due.answers(1, "accept one packet", () -> changedWithout(0, "a", 1));
@@ -298,7 +300,7 @@ public final class RulesEdgesTest {
             "Throws `IllegalArgumentException` if the day is neither -1 nor in its range");
         int[] today = {0, 20, 999};
         for (int day : today) {
-            int[] beyond = java.util.stream.IntStream.of(Edges.outside(day, 999))
+            int[] beyond = IntStream.of(Edges.outside(day, 999))
                 .filter(i -> i != -1).toArray();
             Snapshot.refusesEach(beyond, () -> onDay(day), Edges.ARGUMENT, "on day " + day,
                 (x, last) -> x.setLastDay(0, last));

@@ -236,6 +236,26 @@ public final class TermsEdgesTest {
         Due.answers(0, "no service asked for", () -> Edges.told("a11.").decider(0, 0, 31));
         Due.answers(0, "nothing asked for", () -> Edges.told("a...").decider(31, 0, 31));
         Due.answers(-1, "an empty object", () -> Edges.told("a..4").decider(0, 0, 0));
+        FilterRules book = Edges.told("a.4.");
+        book.addRange(4, 9, 9);
+        Due.answers("-1 0", "a range more", () -> decidersOfTargets(book, 8, 9));
+        book.addMember(4, 1);
+        Due.answers("0 0", "a member more", () -> decidersOfTargets(book, 0, 9));
+        book.removeRange(4);
+        Due.answers("0 -1", "a range less", () -> decidersOfTargets(book, 0, 9));
+        book.removeMember(4, 1);
+        Due.answers("-1 -1", "a member less", () -> decidersOfTargets(book, 0, 9));
+        FilterRules chain = Edges.allObjects();
+        for (int i = 0; i < 7; i++) {
+            chain.addMember(i, i + 1);
+        }
+        chain.addRule(0, 'a', -1, 0, -1, 0);
+        chain.addRange(7, 9, 9);
+        Due.answers("-1 0", "a chain of 7 members", () -> decidersOfTargets(chain, 8, 9));
+    }
+
+    private static String decidersOfTargets(FilterRules book, int one, int other) {
+        return book.decider(0, one, 0) + " " + book.decider(0, other, 0);
     }
 
     private static void decisions() {
