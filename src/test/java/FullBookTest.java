@@ -50,6 +50,7 @@ public final class FullBookTest {
         other.book.addMember(6, 0);
         other.compareAll("with other objects");
         other.removeAll();
+        matchEveryPacket();
         Due.end();
     }
 
@@ -78,6 +79,19 @@ public final class FullBookTest {
         both("accepted", () -> rules.accepted(), () -> book.accepted());
         both("shadowedShare", () -> rules.shadowedShare(), () -> book.shadowedShare());
         both("meanHits", () -> rules.meanHits(), () -> book.meanHits());
+    }
+
+    /** With a last rule for all, none of the 32 values of a field is matched by no rule. */
+    private static void matchEveryPacket() {
+        FullBookTest test = new FullBookTest();
+        test.both("removeRule(7)", () -> test.rules.removeRule(7), () -> test.book.removeRule(7));
+        test.both("a rule for all", () -> test.rules.addRule(7, 'a', -1, -1, -1, 0),
+            () -> test.book.addRule(7, 'a', -1, -1, -1, 0));
+        test.compareAll("with a rule for all");
+        test.both("decided of the rule for all",
+            () -> test.rules.decided(8), () -> test.book.decided(8));
+        test.both("decidedBySamples of the rule for all",
+            () -> test.rules.decidedBySamples(8), () -> test.book.decided(8));
     }
 
     private void comparePackets() {
